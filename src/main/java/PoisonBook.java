@@ -418,7 +418,7 @@ public final class PoisonBook {
             }
         }
 
-        int byteAt(int place) {
+        private int byteAt(int place) {
             return place >= 0 && place < length && place < bytes.length ? bytes[place] : END;
         }
 
@@ -449,7 +449,7 @@ public final class PoisonBook {
             }
         }
 
-        static boolean isLetter(int one) {
+        private static boolean isLetter(int one) {
             return one >= 'a' && one <= 'z';
         }
 
@@ -501,7 +501,7 @@ public final class PoisonBook {
             return NONE;
         }
 
-        boolean isPartOf(String list, int from, int to) {
+        private boolean isPartOf(String list, int from, int to) {
             if (fault != 0 || behind - at != to - from || from < 0 || to > list.length()) {
                 return false;
             }
@@ -575,7 +575,7 @@ public final class PoisonBook {
             return tape.fault;
         }
 
-        void readClause(Tape tape, int clauses) {
+        private void readClause(Tape tape, int clauses) {
             int kind = tape.wordAmong(CLAUSES);
             if (kind == NONE) {
                 tape.fail(Tape.CANNOT_STAND);
@@ -596,13 +596,13 @@ public final class PoisonBook {
             }
         }
 
-        void readBook(Tape tape) {
+        private void readBook(Tape tape) {
             shop.shelf = tape.takeNumber(0, MOST_SHELF);
             shop.fill = tape.takeNumber(0, MOST_FILL);
             shop.round = tape.takeNumber(1, MOST_ROUND);
         }
 
-        void readSky(Tape tape) {
+        private void readSky(Tape tape) {
             int clock = tape.takeNumber(0, shop.round - 1);
             int still = tape.takeNumber(0, MOST_STILL);
             if (shop.hasClock(clock)) {
@@ -610,7 +610,7 @@ public final class PoisonBook {
             }
         }
 
-        void readBuyer(Tape tape) {
+        private void readBuyer(Tape tape) {
             int buyer = shop.buyers;
             if (buyer < 0 || buyer >= MOST_BUYERS) {
                 return;
@@ -621,7 +621,7 @@ public final class PoisonBook {
             shop.buyers++;
         }
 
-        void readWatch(Tape tape) {
+        private void readWatch(Tape tape) {
             int clock = tape.takeNumber(0, shop.round - 1);
             int buyer = tape.takeNumber(0, shop.buyers - 1);
             if (shop.hasClock(clock) && shop.hasBuyer(buyer)) {
@@ -669,7 +669,7 @@ public final class PoisonBook {
             return new Rule(Arrays.copyOf(code, used));
         }
 
-        void readTest(Tape tape, int depth) {
+        private void readTest(Tape tape, int depth) {
             readFact(tape, depth);
             boolean orWaits = false;
             for (int i = 0; i < MOST_BYTES && (tape.isWord("and") || tape.isWord("or")); i++) {
@@ -690,7 +690,7 @@ public final class PoisonBook {
             }
         }
 
-        void readFact(Tape tape, int depth) {
+        private void readFact(Tape tape, int depth) {
             boolean isNot = tape.isWord("not");
             if ((isNot || tape.first == '[') && depth >= MOST_DEPTH) {
                 tape.fail(Tape.TOO_DEEP);
@@ -717,7 +717,7 @@ public final class PoisonBook {
         }
 
         /** A + or - waits in the loop until its TERM has been read. */
-        void readSum(Tape tape) {
+        private void readSum(Tape tape) {
             readValue(tape);
             int waiting = NONE;
             for (int i = 0; i < MOST_BYTES && arithmetic(tape) != NONE; i++) {
@@ -739,7 +739,7 @@ public final class PoisonBook {
             }
         }
 
-        void readValue(Tape tape) {
+        private void readValue(Tape tape) {
             int value = 0;
             if (Tape.isDigit(tape.first)) {
                 value = tape.numberHere(0, MOST_VALUE);
@@ -756,21 +756,21 @@ public final class PoisonBook {
             tape.step();
         }
 
-        void countOne(Tape tape) {
+        private void countOne(Tape tape) {
             if (counted >= MOST_COUNTED) {
                 tape.fail(Tape.TOO_LONG);
             }
             counted++;
         }
 
-        void put(int operation) {
+        private void put(int operation) {
             if (used >= 0 && used < code.length) {
                 code[used] = operation;
                 used++;
             }
         }
 
-        static int arithmetic(Tape tape) {
+        private static int arithmetic(Tape tape) {
             switch (tape.first) {
                 case '+':
                     return Rule.PLUS;
@@ -787,7 +787,7 @@ public final class PoisonBook {
             }
         }
 
-        static int comparison(Tape tape) {
+        private static int comparison(Tape tape) {
             boolean orEqual = tape.behind - tape.at == 2;
             switch (tape.first) {
                 case '<':
@@ -864,7 +864,7 @@ public final class PoisonBook {
             return 0;
         }
 
-        static long joined(int operation, long left, long right) {
+        private static long joined(int operation, long left, long right) {
             switch (operation) {
                 case PLUS:
                     return left + right;
@@ -881,7 +881,7 @@ public final class PoisonBook {
             }
         }
 
-        static boolean holds(int operation, long left, long right) {
+        private static boolean holds(int operation, long left, long right) {
             switch (operation) {
                 case AND:
                     return left != 0 && right != 0;
@@ -985,15 +985,18 @@ public final class PoisonBook {
         }
 
         int stillOn(int someDay) {
-            int clock = clockOn(someDay);
-            return hasClock(clock) ? still[clock] : 0;
+            if (round <= 0 || someDay < 0) {
+                return 0;
+            }
+            int clock = someDay % round;
+            return clock < MOST_ROUND ? still[clock] : 0;
         }
 
         int daysSince(int buyer) {
             return !hasBuyer(buyer) || last[buyer] == NONE ? NEVER : day - last[buyer];
         }
 
-        boolean canBuy(int buyer) {
+        private boolean canBuy(int buyer) {
             if (!hasBuyer(buyer) || shelf < grains[buyer]) {
                 return false;
             }
@@ -1096,7 +1099,7 @@ public final class PoisonBook {
             return who;
         }
 
-        void changeTempers(int stillNow) {
+        private void changeTempers(int stillNow) {
             int more = stillNow >= RESTLESS_STILL ? 1 : stillNow <= CALMING_STILL ? -1 : 0;
             for (int b = 0; b < buyers && b < MOST_BUYERS; b++) {
                 temper[b] = Math.max(0, Math.min(MOST_TEMPER, temper[b] + more));
@@ -1292,7 +1295,7 @@ public final class PoisonBook {
         }
 
         /** Of numbers that are not below 0; each turn at least halves one of them, so 64 are plenty. */
-        static int commonDivisor(int one, int other) {
+        private static int commonDivisor(int one, int other) {
             int high = one;
             int low = other;
             for (int i = 0; i < 64 && low > 0; i++) {
@@ -1347,7 +1350,7 @@ public final class PoisonBook {
             return what == 0 ? sold : shelves;
         }
 
-        void drawSky(int p) {
+        private void drawSky(int p) {
             if (draw() % 100 >= p) {
                 return;
             }
@@ -1358,7 +1361,7 @@ public final class PoisonBook {
             }
         }
 
-        long draw() {
+        private long draw() {
             drawn = (drawn * DRAW_FACTOR + DRAW_ADDED) % DRAW_ROUND;
             return drawn / DRAW_PART;
         }
@@ -1399,7 +1402,7 @@ public final class PoisonBook {
         }
 
         /** Where nobody came the police change nothing: a set that was alike elsewhere went the same way. */
-        boolean hasFailed(int set) {
+        private boolean hasFailed(int set) {
             for (int i = 0; i < failed && i < MOST_SETS; i++) {
                 if ((set & failedOn[i]) == failedWith[i]) {
                     return true;
@@ -1408,7 +1411,7 @@ public final class PoisonBook {
             return false;
         }
 
-        boolean nobodyBuys(Shop shop, Rule rule, int n, int guarded) {
+        private boolean nobodyBuys(Shop shop, Rule rule, int n, int guarded) {
             then.copyFrom(shop);
             for (int clock = 0; clock < MOST_ROUND; clock++) {
                 if ((guarded >> clock & 1) != 0) {
@@ -1430,7 +1433,7 @@ public final class PoisonBook {
             return true;
         }
 
-        void keepFailed(int cameOn, int guardedThere) {
+        private void keepFailed(int cameOn, int guardedThere) {
             if (failed >= 0 && failed < MOST_SETS) {
                 failedOn[failed] = cameOn;
                 failedWith[failed] = guardedThere;
@@ -1505,7 +1508,7 @@ public final class PoisonBook {
             return sets == 0 ? 0 : inAll;
         }
 
-        static int grainsOf(Shop shop, int set) {
+        private static int grainsOf(Shop shop, int set) {
             int sum = 0;
             for (int b = 0; b < shop.buyers && b < MOST_BUYERS; b++) {
                 sum += (set >> b & 1) * shop.grains[b];
@@ -1527,11 +1530,11 @@ public final class PoisonBook {
             }
         }
 
-        static int sizeOf(int choice) {
+        private static int sizeOf(int choice) {
             return 2 * choice + 1;
         }
 
-        int gain(Shop shop, int buyer) {
+        private int gain(Shop shop, int buyer) {
             if (!shop.hasBuyer(buyer)) {
                 return 0;
             }
@@ -1557,7 +1560,7 @@ public final class PoisonBook {
             return sizeOf(what == 1 ? first / SIZES : first % SIZES);
         }
 
-        boolean isRest(int pair) {
+        private boolean isRest(int pair) {
             if (pair < 0 || pair >= SIZES * SIZES) {
                 return false;
             }
@@ -1601,7 +1604,7 @@ public final class PoisonBook {
             }
         }
 
-        boolean agrees(int candidate, Notes notes) {
+        private boolean agrees(int candidate, Notes notes) {
             for (int i = 0; i < notes.size && i < Notes.MOST; i++) {
                 if ((whoOn(candidate, notes.days[i]) >> notes.buyers[i] & 1) != notes.bought[i]) {
                     return false;
@@ -1610,7 +1613,7 @@ public final class PoisonBook {
             return true;
         }
 
-        int whoOn(int candidate, int day) {
+        private int whoOn(int candidate, int day) {
             int place = candidate * DAYS + day;
             return place >= 0 && place < who.length ? who[place] : 0;
         }
@@ -1641,7 +1644,7 @@ public final class PoisonBook {
             return what == 0 ? best : fewest;
         }
 
-        int mostAlike(int day) {
+        private int mostAlike(int day) {
             int most = 0;
             for (int one = 0; one < MOST; one++) {
                 int alike = 0;
