@@ -100,6 +100,11 @@ public final class FaultsTest {
         rule("buy", 3, END);
         rule("buy 1 if", 8, END);
         rule("buys 1", 0, STANDS);
+        rule("buyz 1", 0, STANDS);
+        rule("abuy 1", 0, STANDS);
+        rule("buy{1", 3, STANDS);
+        rule("buy`1", 3, STANDS);
+        rule("buy 1:2", 5, STANDS);
         rule("buy x", 4, STANDS);
         rule("buy 1;", 6, END);
         rule("buy 1;buz 1", 6, STANDS);

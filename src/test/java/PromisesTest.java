@@ -528,6 +528,7 @@ public final class PromisesTest {
         c.due("21: it grows", y.least(0, 3), 18);
         c.due("21: it grows", y.least(0, 21), 0);
         c.due("21: one", y.least(0, 20), 1);
+        c.due("21: 20", y.least(0, 1), 20);
         c.due("21: 0", y.least(1, 1), 0);
         y.watch(0, 0);
         c.due("21: by none", y.least(0, 60), -2);
@@ -600,6 +601,10 @@ public final class PromisesTest {
         c.due("24: the least first", y.fines(5, 1), 2);
         c.due("24: the least first", y.fines(5, 2), 1);
         c.due("24: one left", y.fines(4, 1), 1);
+        PoisonBook z = told("book 1 1 1;buyer 0 1 0;buyer 0 1 0");
+        z.sell(1);
+        c.due("24: one grain", z.fines(7, 1), 7);
+        c.due("24: one grain", z.fines(7, 0), 0);
         c.due("24: much", y.fines(10000, 0), NONE);
         c.due("24: much", y.fines(-1, 0), NONE);
         c.due("24: who", y.fines(1, 3), NONE);
