@@ -1372,73 +1372,42 @@ public final class PoisonBook {
         /** GRAINS that each of two can choose: 1, 3, 5, 7, 9. */
         static final int SIZES = 5;
         static final int LOST_BY_MEETING = 4;
-        static final int MOST_SETS = 1 << MOST_ROUND;
 
         final Shop then = new Shop();
         /** What each of two has, by the choice of the one, then of the other. */
         final int[] oneHas = new int[SIZES * SIZES];
         final int[] otherHas = new int[SIZES * SIZES];
-        /** Of guards by which somebody BUYS: days of the ROUND on which anybody came, and which of these had one. */
-        final int[] failedOn = new int[MOST_SETS];
-        final int[] failedWith = new int[MOST_SETS];
-        int failed = 0;
 
-        /** Days of the ROUND that do not come in these DAYS are in no fewest set. */
+        /**
+         * Ahead of the first purchase all who came were met, so guarding more would have changed nothing until then:
+         * every set by which nobody BUYS has that day of the ROUND. Taking these in one by one leads to the fewest.
+         */
         int smallestGuard(Shop shop, Rule rule, int n) {
-            int coming = 0;
-            for (int i = 0; i < n; i++) {
-                coming |= 1 << shop.clockOn(shop.day + i);
-            }
-            failed = 0;
-            for (int size = 0; size <= MOST_ROUND; size++) {
-                for (int set = 0; set <= coming; set++) {
-                    boolean isOne = (set & ~coming) == 0 && Integer.bitCount(set) == size;
-                    if (isOne && !hasFailed(set) && nobodyBuys(shop, rule, n, set)) {
-                        return set;
-                    }
+            int guarded = 0;
+            for (int turn = 0; turn < MOST_ROUND; turn++) {
+                int open = clockOfPurchase(shop, rule, n, guarded);
+                if (open == NONE) {
+                    return guarded;
                 }
+                guarded |= 1 << open;
             }
-            return coming;
+            return guarded;
         }
 
-        /** Where nobody came the police change nothing: a set that was alike elsewhere went the same way. */
-        private boolean hasFailed(int set) {
-            for (int i = 0; i < failed && i < MOST_SETS; i++) {
-                if ((set & failedOn[i]) == failedWith[i]) {
-                    return true;
-                }
-            }
-            return false;
-        }
-
-        private boolean nobodyBuys(Shop shop, Rule rule, int n, int guarded) {
+        /** The day of the ROUND on which anybody BUYS first, by a guard; NONE, if nobody does. */
+        private int clockOfPurchase(Shop shop, Rule rule, int n, int guarded) {
             then.copyFrom(shop);
             for (int clock = 0; clock < MOST_ROUND; clock++) {
                 if ((guarded >> clock & 1) != 0) {
                     then.watched[clock] = then.everybody();
                 }
             }
-            int cameOn = 0;
             for (int i = 0; i < n; i++) {
-                int metBefore = then.timesMet();
-                boolean bought = then.goThroughDay(rule) != 0;
-                if (bought || then.timesMet() != metBefore) {
-                    cameOn |= 1 << shop.clockOn(shop.day + i);
-                }
-                if (bought) {
-                    keepFailed(cameOn, guarded & cameOn);
-                    return false;
+                if (then.goThroughDay(rule) != 0) {
+                    return shop.clockOn(shop.day + i);
                 }
             }
-            return true;
-        }
-
-        private void keepFailed(int cameOn, int guardedThere) {
-            if (failed >= 0 && failed < MOST_SETS) {
-                failedOn[failed] = cameOn;
-                failedWith[failed] = guardedThere;
-                failed++;
-            }
+            return NONE;
         }
 
         int bestDay(Shop shop, Rule rule, int n, int what) {
