@@ -332,6 +332,23 @@ public final class AskEdgesTest {
         c.due("after a ROUND", z.ring(1), 4);
     }
 
+    /** TEMPERS 0 and 19, or 0 and 20, are not as 1 and 0 two weeks later, though SHELF is. */
+    private void ringApart() {
+        StringBuilder skies = new StringBuilder();
+        for (int clock = 0; clock < 9; clock++) {
+            skies.append(";sky ").append(clock).append(" 3");
+        }
+        for (int temper = 19; temper <= 20; temper++) {
+            PoisonBook x = told("book 99 9 10" + skies + ";sky 9 5;buyer 0 1 0;buyer " + temper + " 1 0",
+                    "buy 1 if buyer = 1 and [day < 4 or day = 10]");
+            c.due("TEMPER 1", x.ahead(0, 14, 0), 1);
+            c.due("TEMPER 0", x.ahead(1, 14, 0), 0);
+            c.due("SHELF 99", x.ahead(1, 14, 2), 99);
+            c.due("calm at last", x.ring(0), 4);
+            c.due("the next one", x.ring(1), 1);
+        }
+    }
+
     /** "PEAK of n DAYS (1 to 100): the DAY of these on which most GRAINS are sold, of several the first". */
     private void peak() {
         PoisonBook x = told("book 99 9 1;buyer 0 1 0;buyer 0 2 0", "buy 1 if day = 50 or day = 99 and buyer = 1");
@@ -367,6 +384,7 @@ public final class AskEdgesTest {
         t.restsMet();
         t.ring();
         t.ringLater();
+        t.ringApart();
         t.peak();
         t.c.close("AskEdgesTest");
     }
