@@ -194,6 +194,9 @@ public final class AskEdgesTest {
             c.due("on DAY " + day + ": how many", z.soothe(60, 1), 2);
             c.due("not yet: of several none", day == 0 ? NONE : z.soothe(day, 0), NONE);
         }
+        PoisonBook x = told("book 9 0 1;sky 0 4;buyer 3 2 0", "buy 1 if temper < 0 or temper > 0");
+        c.due("TEMPER 0, and not below", x.soothe(1, 0), 0);
+        c.due("nothing is sold then", x.soothe(1, 1), 0);
         range("SOOTHE how many", n -> told("book 99 9 1;sky 0 4;buyer 0 1 0", "buy 1").soothe(n, 1), n -> n, 1, 60, -2);
         range("SOOTHE none", n -> told("book 99 9 1;sky 0 4;buyer 0 1 0", "buy 1").soothe(n, 0), n -> NONE, 1, 60, -2);
         range("SOOTHE what", what -> y.soothe(1, what), what -> 1, 0, 1, -2);

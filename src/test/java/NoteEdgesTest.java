@@ -171,6 +171,17 @@ public final class NoteEdgesTest {
         c.due("three are alike", y.look(1), 3);
     }
 
+    /** All seven alike; and RULES that are not so do not part. */
+    private void lookAlike() {
+        PoisonBook x = told(ONE, "buy 0", "buy 0", "buy 0", "buy 0", "buy 0", "buy 0");
+        c.due("all alike on each DAY: the least", x.look(0), 0);
+        c.due("all alike", x.look(1), 7);
+        PoisonBook y = told(ONE, "buy 0", "buy 1 if day = 0");
+        y.note(0, 0, 0);
+        c.due("none and RULE 0 do not part", y.look(0), 0);
+        c.due("two are alike", y.look(1), 2);
+    }
+
     /** "x (0 to 2147483647; 0 at first)"; "NONE, and nothing happens, below 0". */
     private void seed() {
         PoisonBook x = new PoisonBook();
@@ -320,6 +331,35 @@ public final class NoteEdgesTest {
         c.due("made anew", x.image(0), 1);
     }
 
+    /** The NOTES of an IMAGE are as they were, whatever was told then. */
+    private void imageOfNotes() {
+        for (int[] then : new int[][] {{4, 0, 1}, {3, 1, 1}, {3, 0, 0}}) {
+            PoisonBook x = told(ONE + ";buyer 0 1 0", "buy 1 if day = 3 and buyer = 0");
+            x.note(3, 0, 1);
+            x.image(0);
+            x.note(NONE, 0, 0);
+            x.note(then[0], then[1], then[2]);
+            c.due("not RULE 0", x.ruled(1), then[2] == 0 ? NONE : -2);
+            x.back(0);
+            c.due("RULE 0 again", x.ruled(1), 0);
+            c.due("it alone", x.ruled(0), 1);
+        }
+    }
+
+    /** What the text told is of the IMAGE, too. */
+    private void imageOfBegin() {
+        PoisonBook x = told("book 99 0 1;sky 0 9;buyer 9 1 0");
+        x.note(0, 0, 1);
+        x.day();
+        x.image(0);
+        Checks.book(x, ONE);
+        x.note(0, 0, 1);
+        c.due("by this text they do not buy", x.ruled(0), 0);
+        x.back(0);
+        c.due("by that one they do", x.ruled(0), 1);
+        c.due("by no RULE", x.ruled(1), NONE);
+    }
+
     /** An IMAGE of having no BOOK is one, too: DAY is 0 then. */
     private void imageWithoutBook() {
         PoisonBook x = new PoisonBook();
@@ -341,6 +381,7 @@ public final class NoteEdgesTest {
         t.asTold();
         t.look();
         t.lookLater();
+        t.lookAlike();
         t.seed();
         t.draws();
         t.drawnAheadOfEach();
@@ -348,6 +389,8 @@ public final class NoteEdgesTest {
         t.summersOneAfterTheOther();
         t.images();
         t.imageKeeps();
+        t.imageOfNotes();
+        t.imageOfBegin();
         t.imageWithoutBook();
         t.c.close("NoteEdgesTest");
     }

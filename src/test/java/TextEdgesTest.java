@@ -397,6 +397,46 @@ public final class TextEdgesTest {
         rule(twelve + ";buys 1", fault(twelve.length() + 1, STANDS));
     }
 
+    /** Each text is looked at by itself, whatever was told, or was a FAULT, ahead of it: RULES. */
+    private void ruleAfterRule() {
+        PoisonBook x = new PoisonBook();
+        String sixty = "buy 1" + "+1".repeat(56) + " if [[1=1]]";
+        String twelve = "buy 1" + ";buy 1".repeat(11);
+        for (int number = 0; number < 6; number++) {
+            c.due("a FAULT of VALUES", Checks.rule(x, sixty + " or 1=1"), fault(sixty.length() + 4, MANY));
+            c.due("a FAULT of CLAUSES", Checks.rule(x, twelve + ";buy 1"), fault(twelve.length() + 1, CLAUSE));
+            c.due("a FAULT of depth", Checks.rule(x, "buy 1 if " + "[".repeat(11)), fault(19, DEEP));
+            c.due("its number", Checks.rule(x, number % 2 == 0 ? sixty : twelve), number);
+        }
+    }
+
+    /** The same of BOOKS: nothing of a text that was told, or was a FAULT, is left. */
+    private void bookAfterBook() {
+        StringBuilder full = new StringBuilder("book 99 9 10");
+        for (int clock = 0; clock < 10; clock++) {
+            full.append(";sky ").append(clock).append(" 9");
+        }
+        full.append(";buyer 20 9 9".repeat(6));
+        for (int clock = 0; clock < 10; clock++) {
+            full.append(";watch ").append(clock).append(" 0");
+        }
+        for (String behind : new String[] {"", ";", ";book 0 0 1", ";buyer 1 1 1", ";sky 10 0"}) {
+            PoisonBook x = new PoisonBook();
+            c.holds("told, or a FAULT", Checks.book(x, full + behind) == 6 == behind.isEmpty());
+            c.due("another one", Checks.book(x, "book 1 0 10;buyer 1 2 3"), 1);
+            c.due("SHELF", x.count(7), 1);
+            c.due("FILL", x.count(0), 0);
+            for (int clock = 0; clock < 10; clock++) {
+                c.due("STILL, 0 without", x.sky(clock, 0), 0);
+                c.due("nobody is met", x.sky(clock, 1), 0);
+            }
+            for (int what = 0; what < 5; what++) {
+                c.due("the BUYER", x.buyer(0, what), what < 3 ? what + 1 : 0);
+                c.due("no other one", x.buyer(1, what), NONE);
+            }
+        }
+    }
+
     private void holds(String test, boolean holds) {
         PoisonBook x = Checks.told("book 50 0 1;buyer 11 4 2");
         Checks.rule(x, "buy 1 if " + test);
@@ -476,6 +516,8 @@ public final class TextEdgesTest {
         t.notCounted();
         t.ends();
         t.whichOfSeveral();
+        t.ruleAfterRule();
+        t.bookAfterBook();
         t.partedBy();
         t.goesRound();
         t.c.close("TextEdgesTest");
